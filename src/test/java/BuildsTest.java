@@ -6,6 +6,7 @@ public final class BuildsTest {
     build(c);
     partners(c);
     tieGoesBehindTheOlder(c);
+    longestOfSeveral(c);
     filesAreApart(c);
     greatest(c);
     c.end();
@@ -86,6 +87,31 @@ public final class BuildsTest {
     Check.build(z, 0, 4, 0, 1, 0, 2, 0, 3);
     for (int i = 0; i < 4; i++) {
       c.due("behind q: partner(" + i + ")", z.partner(i), i - 1);
+    }
+  }
+
+  private static void longestOfSeveral(Check c) {
+    AlarmGroups x = new AlarmGroups();
+    // the longest is 2 3 4 1; both sides have to be gone behind more than once
+    Check.build(x, 0, 1, 0, 9, 0, 2, 0, 3, 0, 8, 0, 4, 0, 1);
+    Check.build(x, 0, 2, 0, 7, 0, 3, 0, 1, 0, 6, 0, 4, 0, 5, 0, 1);
+    int[] due = {2, -1, 3, -1, -1, 5, -1, 6};
+    for (int i = 0; i < due.length; i++) {
+      c.due("longest: partner(" + i + ")", x.partner(i), due[i]);
+    }
+    AlarmGroups y = new AlarmGroups();
+    // one like MARK at once would cost three
+    Check.build(y, 0, 4, 0, 1, 0, 2, 0, 3);
+    Check.build(y, 0, 1, 0, 2, 0, 3, 0, 4);
+    for (int i = 0; i < 4; i++) {
+      c.due("three: partner(" + i + ")", y.partner(i), i < 3 ? i + 1 : -1);
+    }
+    AlarmGroups z = new AlarmGroups();
+    Check.build(z, 0, 1, 0, 2, 0, 3, 0, 4);
+    Check.build(z, 0, 4, 0, 8, 0, 9, 0, 1, 0, 2, 0, 3);
+    int[] three = {-1, -1, -1, 0, 1, 2};
+    for (int i = 0; i < 6; i++) {
+      c.due("three behind: partner(" + i + ")", z.partner(i), three[i]);
     }
   }
 

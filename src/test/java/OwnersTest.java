@@ -13,7 +13,7 @@ public final class OwnersTest {
 
   private static void path(Check c) {
     AlarmGroups x = new AlarmGroups();
-    String[] texts = {"", "a", "a/b", "._/..", LONG, "/", "a/", "a//b", "/a", "a*", "A", "a0", "a b", "a/b/",
+    String[] texts = {"", "a", "z/z", "._/..", LONG, "/", "a/", "a//b", "/a", "a*", "A", "a0", "a b", "a/b/",
         LONG + "w", LONG + "/", LONG.substring(0, 23) + "/", LONG.substring(0, 23) + "/a", "a\u00e9", LONG + LONG + "A"};
     int[] due = {0, 1, 3, 5, 24, -10, -12, -12, -10, -11, -10, -11, -11, -14, -34, -34, -34, -34, -11, -34};
     for (int i = 0; i < texts.length; i++) {

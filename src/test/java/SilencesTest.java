@@ -54,6 +54,9 @@ public final class SilencesTest {
     fault(c, "   ", 3);
     fault(c, ";", 0);
     fault(c, "silences all;", 0);
+    fault(c, "xilence all;", 0);
+    fault(c, "silencz all;", 0);
+    fault(c, "silence azz;", 8);
     fault(c, "silence", 7);
     fault(c, "silence  ", 9);
     fault(c, "silence all", 11);
@@ -291,5 +294,13 @@ public final class SilencesTest {
     c.due("lift(0)", x.lift(0), 1);
     c.due("lift(0)", x.lift(0), 0);
     c.due("lift(0)", x.lift(0), -2);
+    Check.silence(x, "silence file 1; silence file 2 because 'two'; silence file 3;");
+    x.lift(0);
+    Check.silence(x, "silence all kind 4;");
+    int[] files = {2, 3, -1};
+    for (int k = 0; k < 3; k++) {
+      c.due("those behind are one less, what comes is apart: " + k, x.silent(k, 3), files[k]);
+    }
+    c.holds("its TEXT, too", Check.reason(x, 0).equals("two"));
   }
 }
