@@ -23,9 +23,9 @@ public final class AlarmGroups {
     private final Matching matching = new Matching();
     private final Alarms alarms = new Alarms();
     private final Facts facts = new Facts();
-    private final Silences silences = new Silences(text);
+    private final Silences silences = new Silences();
     private final Ranks ranks = new Ranks();
-    private final Lists lists = new Lists(text, list);
+    private final Lists lists = new Lists();
     private final Parts[] paths = new Parts[FILES];
     private final Parts[] patterns = new Parts[PATTERNS_MOST];
     private final int[] patternOwners = new int[PATTERNS_MOST];
@@ -199,7 +199,7 @@ public final class AlarmGroups {
     // ---- silences
 
     public int silence() {
-        int answer = silences.take(now.size, builds - 1);
+        int answer = silences.take(text, now.size, builds - 1);
         text.clear();
         return answer;
     }
@@ -322,7 +322,7 @@ public final class AlarmGroups {
 
     public int out() {
         ranks.order(alarms, setNow(ALL_TOLD), false);
-        lists.write(alarms, ranks);
+        lists.write(list, alarms, ranks);
         return list.size();
     }
 
@@ -342,7 +342,7 @@ public final class AlarmGroups {
     }
 
     public int read() {
-        int answer = lists.countTold(alarms);
+        int answer = lists.countTold(text, alarms);
         text.clear();
         return answer;
     }
@@ -911,10 +911,9 @@ public final class AlarmGroups {
         /** The slots behind the last SILENCE are for those being read; one more than can stay. */
         final Silence[] slots = new Silence[SILENCES_MOST + 1];
         int size;
-        private final Tokens tokens;
+        private final Tokens tokens = new Tokens();
 
-        Silences(Row text) {
-            tokens = new Tokens(text);
+        Silences() {
             for (int i = 0; i <= SILENCES_MOST; i++) {
                 slots[i] = new Silence();
             }
@@ -954,8 +953,8 @@ public final class AlarmGroups {
         }
 
         /** A FAULT goes ahead of ROOM, so the text is read to its end in any case. */
-        int take(int lineCount, int nowBuild) {
-            tokens.split();
+        int take(Row text, int lineCount, int nowBuild) {
+            tokens.split(text);
             int end = size;
             for (int i = 0; i < TEXT_MOST; i++) {
                 if (!takeOne(slots[Math.min(end, SILENCES_MOST)], lineCount, nowBuild)) {
@@ -1040,24 +1039,22 @@ public final class AlarmGroups {
         }
     }
 
-    /** THE TEXT as TOKENS, of which the first ones are taken, and one is next. */
+    /** A copy of THE TEXT as TOKENS, of which the first ones are taken, and one is next. */
     private static final class Tokens {
         static final int END = 0, WORD = 1, NUMBER = 2, QUOTED = 3, SEMICOLON = 4, NO_TOKEN = 5;
         private static final int DIGITS_MOST = 6;
 
-        private final Row text;
+        private final Row text = new Row(TEXT_MOST);
         private final int[] sorts = new int[TEXT_MOST + 1];
         private final int[] starts = new int[TEXT_MOST + 1];
         private final int[] ends = new int[TEXT_MOST + 1];
         private int size;
         private int next;
 
-        Tokens(Row itsText) {
-            text = itsText;
-        }
-
         /** Ends with what is no TOKEN, too: nothing behind it can matter. */
-        void split() {
+        void split(Row from) {
+            text.clear();
+            text.addPart(from, 0, from.size());
             size = 0;
             next = 0;
             int start = 0;
@@ -1294,28 +1291,21 @@ public final class AlarmGroups {
         private static final String BEHIND = "@ /;";
         private static final int FIELDS = 4, DIGITS_MOST = 4;
 
-        private final Row text;
-        private final Row list;
         private final int[] values = new int[FIELDS];
         private int place;
 
-        Lists(Row itsText, Row itsList) {
-            text = itsText;
-            list = itsList;
-        }
-
-        void write(Alarms alarms, Ranks order) {
+        void write(Row list, Alarms alarms, Ranks order) {
             list.clear();
             for (int k = 0; k < order.size; k++) {
                 int a = order.row[k];
-                writeNumber(alarms.kind[a], 0);
-                writeNumber(alarms.line[a], 1);
-                writeNumber(alarms.p[a], 2);
-                writeNumber(alarms.q[a], 3);
+                writeNumber(list, alarms.kind[a], 0);
+                writeNumber(list, alarms.line[a], 1);
+                writeNumber(list, alarms.p[a], 2);
+                writeNumber(list, alarms.q[a], 3);
             }
         }
 
-        private void writeNumber(int value, int field) {
+        private static void writeNumber(Row list, int value, int field) {
             for (int unit = 1000; unit > 0; unit /= 10) {
                 if (value >= unit || unit == 1) {
                     list.add('0' + value / unit % 10);
@@ -1324,11 +1314,11 @@ public final class AlarmGroups {
             list.add(BEHIND.charAt(field));
         }
 
-        int countTold(Alarms alarms) {
+        int countTold(Row text, Alarms alarms) {
             int told = 0;
             place = 0;
             for (int i = 0; i < TEXT_MOST && place < text.size(); i++) {
-                if (!readOne()) {
+                if (!readOne(text)) {
                     return FAULT - place;
                 }
                 if (alarms.isToldSo(values[1], values[0], values[2], values[3])) {
@@ -1339,9 +1329,9 @@ public final class AlarmGroups {
         }
 
         /** Where it answers false, place is that of the byte that can't stand. */
-        private boolean readOne() {
+        private boolean readOne(Row text) {
             for (int field = 0; field < FIELDS; field++) {
-                if (!readNumber(field) || text.at(place) != BEHIND.charAt(field)) {
+                if (!readNumber(text, field) || text.at(place) != BEHIND.charAt(field)) {
                     return false;
                 }
                 place++;
@@ -1349,7 +1339,7 @@ public final class AlarmGroups {
             return true;
         }
 
-        private boolean readNumber(int field) {
+        private boolean readNumber(Row text, int field) {
             int first = text.at(place);
             if (!Tokens.isDigit(first)) {
                 return false;
