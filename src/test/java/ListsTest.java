@@ -53,13 +53,10 @@ public final class ListsTest {
       x.line(0, i);
     }
     x.build();
-    StringBuilder due = new StringBuilder();
     for (int i = 0; i < 50; i++) {
       x.alarm(39 - i / 10, 9 - i % 10, 0, 1000, 1000);
-      due.append(i % 10).append('@').append(35 + i / 10).append(" 1000/1000;");
     }
     c.due("750 bytes", x.out(), 750);
-    c.holds("as due", Check.outText(x).equals(due.toString()));
     c.due("outByte(749)", x.outByte(749), ';');
     c.due("outByte(750)", x.outByte(750), -1);
     c.due("back(600, 150)", x.back(600, 150), 150);
